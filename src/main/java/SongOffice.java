@@ -148,6 +148,7 @@ public final class SongOffice {
             case 3:
                 return standing.filled[h];
             case 4:
+                anew.reckonTo(standing.closed);
                 return owedTo(h);
             default:
                 return NONE;
@@ -205,6 +206,7 @@ public final class SongOffice {
     }
 
     public long owe() {
+        anew.reckonTo(standing.closed);
         long all = 0;
         for (int h = 0; h < HANDS; h++) {
             all += owedTo(h);
@@ -213,6 +215,7 @@ public final class SongOffice {
     }
 
     public int settle() {
+        anew.reckonTo(standing.closed);
         int owed = 0;
         for (int h = 0; h < HANDS; h++) {
             if (owedTo(h) != 0) {
@@ -268,8 +271,8 @@ public final class SongOffice {
         }
     }
 
+    // ANEW has to be reckoned to THE TERM ahead of this.
     private long owedTo(int h) {
-        anew.reckonTo(standing.closed);
         return anew.worth(h) - standing.worth(h);
     }
 
@@ -516,8 +519,8 @@ public final class SongOffice {
         final long[] ended;
         int size;
 
-        LineBook(int room) {
-            this.room = room;
+        LineBook(int most) {
+            room = Math.max(0, most);
             work = new int[room];
             owner = new int[room];
             from = new int[room];
@@ -694,23 +697,16 @@ public final class SongOffice {
         }
 
         private void bringIn(int work) {
-            if (reports.wayOf(closed, work) != TOLD_BY_DAYS) {
-                bringInPart(work, 0, lastDay());
-                return;
-            }
-            for (int part = 0; part < PARTS; part++) {
-                bringInPart(work, part, lastDay() - (PARTS - 1 - part) * PART_DAYS);
-            }
-        }
-
-        private void bringInPart(int work, int part, int day) {
-            long coins = reports.coinsOf(closed, work, part);
-            int set = shares.setAt(work, day);
-            cameIn += coins * COIN;
-            for (int s = set * SHARERS; s < (set + 1) * SHARERS; s++) {
-                long mites = coins * shares.parts[s] * (COIN / WHOLE);
-                if (mites > 0) {
-                    runLine(work, shares.hands[s], NONE, 0, mites);
+            int parts = reports.wayOf(closed, work) == TOLD_BY_DAYS ? PARTS : 1;
+            for (int part = 0; part < parts; part++) {
+                long coins = reports.coinsOf(closed, work, part);
+                int set = shares.setAt(work, lastDay() - (parts - 1 - part) * PART_DAYS);
+                cameIn += coins * COIN;
+                for (int s = set * SHARERS; s < (set + 1) * SHARERS; s++) {
+                    long mites = coins * shares.parts[s] * (COIN / WHOLE);
+                    if (mites > 0) {
+                        runLine(work, shares.hands[s], NONE, 0, mites);
+                    }
                 }
             }
         }
@@ -719,29 +715,24 @@ public final class SongOffice {
             int i = lines.begin(work, hand, from, mites);
             long left = mites;
             for (int n = from + 1; n < bargains.size && left > 0; n++) {
-                if (bargains.holdsFor(n, hand, work, lastDay())) {
-                    left -= takeFromLine(n, work, passes, left);
+                boolean passing = passesOn(bargains.kinds[n]);
+                boolean letBy = passing && passes >= MOST_PASSES;
+                if (letBy || !bargains.holdsFor(n, hand, work, lastDay())) {
+                    continue;
+                }
+                long taken = takenBy(n, left);
+                came[n] += left;
+                kept[n] += taken;
+                left -= taken;
+                if (bargains.kinds[n] == RESERVE) {
+                    bags[n * TERMS + closed] += taken;
+                }
+                if (passing && taken > 0) {
+                    runLine(work, bargains.takers[n], n, passes + 1, taken);
                 }
             }
             purse[hand] += left;
             lines.end(i, left);
-        }
-
-        private long takeFromLine(int n, int work, int passes, long mites) {
-            int kind = bargains.kinds[n];
-            if (passesOn(kind) && passes >= MOST_PASSES) {
-                return 0;
-            }
-            long taken = takenBy(n, mites);
-            came[n] += mites;
-            kept[n] += taken;
-            if (kind == RESERVE) {
-                bags[n * TERMS + closed] += taken;
-            }
-            if (passesOn(kind) && taken > 0) {
-                runLine(work, bargains.takers[n], n, passes + 1, taken);
-            }
-            return taken;
         }
 
         private long takenBy(int n, long mites) {

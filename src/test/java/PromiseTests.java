@@ -890,6 +890,9 @@ public final class PromiseTests {
         due("anew it paid 4 of the debt", x.hand(0, 4), 0);
         due("nobody is owed", x.settle(), 0);
         dueHand(x, 0, -3 * COIN, 2 * COIN, 5);
+        brings(x, 0, 2);
+        x.close();
+        dueHand(x, 0, -2 * COIN, 2 * COIN, 5);
     }
 
     private static void settlingBargains() {
