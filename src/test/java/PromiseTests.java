@@ -44,6 +44,7 @@ public final class PromiseTests {
         manyLines();
         counts();
         theEnd();
+        fullOffice();
         wildArguments();
         System.out.println(wrong == 0 ? "all promises hold" : wrong + " answers are not as due");
         if (wrong != 0) {
@@ -1034,6 +1035,29 @@ public final class PromiseTests {
         due("settle", x.settle(), 1);
         dueHand(x, 0, COIN, 0, 4);
         due("lines stay", x.line(0, 3), 8 * COIN);
+    }
+
+    private static void fullOffice() {
+        part = "full office";
+        SongOffice x = office();
+        for (int n = 0; n < 12; n++) {
+            x.bargain(FLOOR, n, 4095, 0, n + 1, 0, 0, 0);
+        }
+        for (int n = 12; n < 24; n++) {
+            due("number", x.bargain(RESERVE, 0, 4095, 0, 500, 8, 0, 0), n);
+        }
+        for (int t = 0; t < 40; t++) {
+            brings(x, 0, 4096);
+            due("close()", x.close(), t);
+        }
+        due("floors of hand 11 in ten years", x.hand(11, 3), 120);
+        due("all floors: 2 to 12, ten times", x.count(4), 770);
+        due("eight bags of 4,095 coins, and one more", x.sent(0, 8 * 4095 + 1), COIN);
+        for (int n = 12; n < 24; n++) {
+            due("bags of " + n, x.has(n, 2), 0);
+        }
+        due("debt", x.hand(0, 1), COIN);
+        due("nothing owed", x.owe(), 0);
     }
 
     private static void wildArguments() {
