@@ -539,7 +539,6 @@ public final class SongOffice {
                 owner[i] = ofHand;
                 from[i] = ofBargain;
                 began[i] = mites;
-                ended[i] = 0;
             }
             size++;
             return i;

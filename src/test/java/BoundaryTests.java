@@ -51,8 +51,9 @@ public final class BoundaryTests {
         questions();
         manyLines();
         largest();
+        ownMemory();
         nothingLeft();
-        System.out.println(wrong == 0 ? tried + " answers at boundaries are as due" : wrong + " answers are not as due");
+        System.out.println(wrong == 0 ? tried + " answers at boundaries are due" : wrong + " answers are not as due");
         if (wrong != 0) {
             System.exit(1);
         }
@@ -653,6 +654,16 @@ public final class BoundaryTests {
             due("let out", x.due(0, 1), Math.max(0, 3 - coins));
             due("debt stays", x.hand(0, 1), Math.max(0, coins - 3) * COIN);
         }
+        sentence = "a BAG goes into its HAND's PURSE, to what is there";
+        SongOffice y = new SongOffice();
+        y.share(0, 0, 0, 900, 1, 100, NONE, 0);
+        y.bargain(RESERVE, 0, 1, 0, 500, 1, 0, 0);
+        y.bargain(RESERVE, 0, 1, 0, 500, 1, 0, 0);
+        brings(y, 0, 1);
+        y.close();
+        due("a quarter", y.hand(0, 0), 225_000);
+        y.close();
+        due("all four", y.hand(0, 0), 900_000);
     }
 
     private static void debtsAndDues() {
@@ -692,6 +703,11 @@ public final class BoundaryTests {
         y.close();
         due("a mite short", y.hand(0, 1), 1);
         due("purse", y.hand(0, 0), 0);
+        sentence = "a DEBT of one MITE";
+        brings(y, 0, 1);
+        y.close();
+        due("paid", y.hand(0, 1), 0);
+        due("the rest", y.hand(0, 0), 998_999);
     }
 
     private static void pursesBelowNothing() {
@@ -727,7 +743,7 @@ public final class BoundaryTests {
     }
 
     private static void floors() {
-        sentence = "if its HAND's DUES of the YEAR together are below sum, its DUE of THE TERM is so much more (FILLED)";
+        sentence = "if its HAND's DUES of the YEAR together are below sum, its DUE of THE TERM is so much more";
         for (int coins = 3; coins <= 6; coins++) {
             SongOffice x = office();
             x.bargain(FLOOR, 0, 1, 0, 5, 0, 0, 0);
@@ -867,6 +883,21 @@ public final class BoundaryTests {
         due("a bag of a thousand mites", y.sent(0, 1), COIN - 1000);
         due("the next one wholly", y.sent(0, 2), 2 * COIN);
         due("together", y.hand(0, 1), 3 * COIN - 1000);
+        sentence = "SENT BACK: the last MITE of it from the next TERM's BAG";
+        SongOffice z = new SongOffice();
+        z.share(0, 0, 0, 1, 1, 999, NONE, 0);
+        z.share(1, 0, 0, 999, 1, 1, NONE, 0);
+        z.bargain(SPLIT, 0, 1, 0, 1, 0, 0, 2);
+        z.bargain(RESERVE, 0, 3, 0, 1000, 8, 0, 0);
+        brings(z, 0, 1);
+        brings(z, 1, 1);
+        z.close();
+        brings(z, 1, 1);
+        z.close();
+        due("a mite short of a coin", z.has(1, 20), 999_999);
+        due("no debt", z.sent(0, 1), 0);
+        due("the lowest", z.has(1, 20), 0);
+        due("the next", z.has(1, 21), 998_999);
     }
 
     // ---- Terms, 3
@@ -899,6 +930,38 @@ public final class BoundaryTests {
         orderOfMended();
         sentAnew();
         owedFor();
+        anewFromNothing();
+    }
+
+    private static void anewFromNothing() {
+        sentence = "ANEW: all CLOSED TERMS are reckoned from nothing, however often it is asked for";
+        SongOffice x = new SongOffice();
+        x.share(0, 0, 0, 900, 1, 100, NONE, 0);
+        alone(x, 2, 2);
+        x.bargain(ADVANCE, 0, 1, 0, 4, 0, 0, 0);
+        x.bargain(RESERVE, 2, 4, 0, 500, 8, 0, 0);
+        x.bargain(FLOOR, 2, 4, 0, 6, 0, 0, 0);
+        x.sent(3, 2);
+        brings(x, 0, 1);
+        brings(x, 2, 4);
+        closeTo(x, 4);
+        for (int k = 0; k < 3; k++) {
+            x.mend(0, 0, 5 + k, 0, 0, false);
+            due("owed to 0", x.hand(0, 4), k == 0 ? 500_000 : k == 1 ? 1_400_000 : 2_300_000);
+            due("owed to 1", x.hand(1, 4), (4 + k) * 100_000L);
+            due("owed to 2", x.hand(2, 4), 0);
+            due("owed to 3", x.hand(3, 4), 0);
+            due("together", x.owe(), x.hand(0, 4) + x.hand(1, 4));
+        }
+        due("settle", x.settle(), 2);
+        row("ADVANCE", new long[] {x.has(0, 0), x.has(0, 1), x.has(0, 2)}, 4 * COIN, 6_300_000, 0);
+        row("RESERVE", new long[] {x.has(1, 0), x.has(1, 1), x.has(1, 2)}, 2 * COIN, 4 * COIN, 2 * COIN);
+        row("FLOOR", new long[] {x.hand(2, 3), x.count(4)}, 4, 4);
+        due("came in", x.count(3), 11 * COIN);
+        due("debt", x.hand(3, 1), 2 * COIN);
+        sentence = "SETTLE: the PURSE is more by what is OWED, to what is there";
+        due("purse of 0", x.hand(0, 0), 2_300_000);
+        due("purse of 1: 100,000 were there", x.hand(1, 0), 700_000);
     }
 
     private static void orderOfMended() {
@@ -985,7 +1048,7 @@ public final class BoundaryTests {
     }
 
     private static void settles() {
-        sentence = "SETTLE: each HAND's PURSE is more by what is OWED, less by what its DEBT falls, more by what it rises";
+        sentence = "SETTLE: PURSE is more by what is OWED, less by what its DEBT falls, more by what that rises";
         long[][] want = {{2, -2, 6}, {4, 0, 5}, {6, 2, 4}};
         for (long[] w : want) {
             SongOffice x = office();
@@ -1014,13 +1077,16 @@ public final class BoundaryTests {
         for (int w = 0; w < 3; w++) {
             y.mend(0, w, 8, 0, 0, false);
         }
-        row("ahead", new long[] {y.has(0, 0), y.has(0, 1), y.has(0, 2), y.has(1, 20), y.count(3), y.hand(2, 3), y.count(4)},
-            4 * COIN, 4 * COIN, COIN, 2 * COIN, 12 * COIN, 2, 2);
+        row("ahead", new long[] {y.has(0, 0), y.has(0, 1), y.has(0, 2), y.has(1, 20)},
+            4 * COIN, 4 * COIN, COIN, 2 * COIN);
+        row("ahead", new long[] {y.count(3), y.hand(2, 3), y.count(4)}, 12 * COIN, 2, 2);
         due("hands", y.settle(), 3);
-        row("behind", new long[] {y.has(0, 0), y.has(0, 1), y.has(0, 2), y.has(1, 20), y.count(3), y.hand(2, 3), y.count(4)},
-            5 * COIN, 8 * COIN, 0, 4 * COIN, 24 * COIN, 0, 0);
+        row("behind", new long[] {y.has(0, 0), y.has(0, 1), y.has(0, 2), y.has(1, 20)},
+            5 * COIN, 8 * COIN, 0, 4 * COIN);
+        row("behind", new long[] {y.count(3), y.hand(2, 3), y.count(4)}, 24 * COIN, 0, 0);
         row("purses", new long[] {y.hand(0, 0), y.hand(1, 0), y.hand(2, 0)}, 3 * COIN, 2 * COIN, 2 * COIN);
         due("DUES stay", y.hand(2, 2), 6);
+        lastBargains();
         sentence = "settle: all twelve HANDS";
         SongOffice z = new SongOffice();
         for (int h = 0; h < 12; h++) {
@@ -1034,6 +1100,43 @@ public final class BoundaryTests {
         due("twelve", z.settle(), 12);
         due("none again", z.settle(), 0);
         due("how often SETTLED", z.count(7), 3);
+    }
+
+    private static void lastBargains() {
+        sentence = "24 BARGAINS: the last is as the first";
+        SongOffice x = office();
+        for (int n = 0; n < 22; n++) {
+            x.bargain(FLOOR, 3, 1, 3599, 1, 0, 0, 0);
+        }
+        due("the 23rd", x.bargain(RESERVE, 0, 1, 0, 500, 8, 0, 0), 22);
+        due("the 24th", x.bargain(RESERVE, 0, 1, 0, 500, 8, 0, 0), 23);
+        brings(x, 0, 4);
+        x.close();
+        row("bags", new long[] {x.has(22, 20), x.has(22, 2), x.has(22, 60), x.has(23, 20), x.has(23, 2), x.has(23, 60)},
+            2 * COIN, 2 * COIN, 0, COIN, COIN, 0);
+        x.mend(0, 0, 8, 0, 0, false);
+        due("settle", x.settle(), 1);
+        row("bags of ANEW", new long[] {x.has(22, 20), x.has(22, 2), x.has(23, 20), x.has(23, 2)},
+            4 * COIN, 4 * COIN, 2 * COIN, 2 * COIN);
+        due("sent", x.sent(0, 5), 0);
+        due("of the 23rd first", x.has(22, 20), 0);
+        due("then of the 24th", x.has(23, 20), COIN);
+        closeTo(x, 40);
+        due("due at once, OWED, let out", x.hand(0, 2), 1 + 1 + 1);
+        due("sent behind the last CLOSE", x.sent(0, 1), COIN);
+        due("22 floors of one HAND", x.hand(3, 3), 1);
+        sentence = "DUES of the YEAR: the last one, beside other HANDS' dues of TERM 0";
+        SongOffice y = office();
+        for (int h = 0; h < 12; h++) {
+            y.bargain(FLOOR, h, 1, 3240, 5, 0, 0, 0);
+        }
+        for (int w = 0; w < 3; w++) {
+            brings(y, w, 9);
+        }
+        closeTo(y, 40);
+        for (int h = 0; h < 12; h++) {
+            due("due of hand " + h, y.due(h, 39), 5);
+        }
     }
 
     // ---- Promises 2 and 3
@@ -1378,7 +1481,8 @@ public final class BoundaryTests {
         row("whole", new long[] {x.told(0, 0, 3), x.told(0, 1, 3), x.told(0, 2, 3), x.told(0, 11, 3)}, 1, 2, 0, 0);
         x.tear(0);
         row("torn", new long[] {x.told(0, 0, 3), x.told(0, 1, 3), x.told(0, 2, 3), x.told(0, 11, 3)}, 5, 6, 4, 4);
-        row("what was told", new long[] {x.told(0, 1, 0), x.told(0, 1, 1), x.told(0, 1, 2), x.told(0, 1, 4)}, 1, 2, 3, 1);
+        row("what was told", new long[] {x.told(0, 1, 0), x.told(0, 1, 1), x.told(0, 1, 2)}, 1, 2, 3);
+        due("its place", x.told(0, 1, 4), 1);
         x.close();
         row("closed", new long[] {x.told(0, 0, 3), x.told(0, 1, 3), x.told(0, 2, 3), x.told(0, 11, 3)}, 5, 6, 4, 4);
         row("THE TERM", new long[] {x.told(1, 0, 3), x.told(1, 1, 3), x.told(1, 2, 3), x.told(1, 11, 3)}, 0, 0, 0, 0);
@@ -1477,15 +1581,51 @@ public final class BoundaryTests {
         due("taker", z.due(5, 0), 1_998_000);
     }
 
+    private static void ownMemory() {
+        sentence = "All memory is the office's own";
+        List<Long> fresh = state(new SongOffice());
+        List<Long> busy = state(after(BUSY));
+        SongOffice idle = new SongOffice();
+        SongOffice one = after(BUSY);
+        SongOffice other = after(BUSY);
+        other.tear(0);
+        other.mend(0, 0, 99, 0, 0, false);
+        other.settle();
+        other.close();
+        List<Long> left = state(one);
+        for (int i = 0; i < busy.size(); i++) {
+            due("answer " + i + " beside another office", left.get(i), busy.get(i));
+        }
+        left = state(idle);
+        for (int i = 0; i < fresh.size(); i++) {
+            due("answer " + i + " of a new one made ahead of them", left.get(i), fresh.get(i));
+        }
+        left = state(new SongOffice());
+        for (int i = 0; i < fresh.size(); i++) {
+            due("answer " + i + " of a new one made behind them", left.get(i), fresh.get(i));
+        }
+        sentence = "A new object: No SHARES, BARGAINS; THE TERM is 0";
+        SongOffice x = new SongOffice();
+        row("counts", new long[] {x.count(0), x.count(1), x.count(2), x.count(3)}, 0, 0, 0, 0);
+        row("counts", new long[] {x.count(4), x.count(5), x.count(6), x.count(7)}, 0, 0, 12, 0);
+        for (int w = 0; w < 12; w++) {
+            due("no SHARES of " + w, told(brings(x, w, 1)), NONE);
+            due("a first set of " + w, alone(x, w, 0), 1);
+            due("SHARES of " + w, told(brings(x, w, 1)), 1);
+        }
+        due("a first BARGAIN", split(x, 0), 0);
+    }
+
     private static void nothingLeft() {
         sentence = "An object is used for at most 512 calls: the last of them is as the first";
         SongOffice x = office();
-        for (int k = 0; k < 470; k++) {
+        // office() made six of them.
+        for (int k = 0; k < 503; k++) {
             due("report", told(brings(x, k % 3, k)), 1);
         }
         x.close();
-        due("due", x.due(2, 0), 467);
-        due("due", x.due(1, 0), 469);
+        due("due", x.due(2, 0), 500);
+        due("due", x.due(1, 0), 502);
         sentence = "THE TERM 40: what asks for a TERM is refused, the rest goes on";
         SongOffice y = after(closed(40));
         due("sent", y.sent(0, 1), COIN);

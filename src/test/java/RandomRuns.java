@@ -5,7 +5,8 @@ import java.util.Random;
 import java.util.TreeMap;
 
 /**
- * Random runs of up to 512 calls, with fixed seeds, against a plain model of the document that reckons ANEW from
+ * Random runs of 512 steps, with fixed seeds, and a look at all that there is behind them (the document promises 512
+ * calls; this class answers the later ones likewise), against a plain model of the document that reckons ANEW from
  * nothing each time it is asked. The model shares no code with SongOffice, only the reading of the document.
  */
 public final class RandomRuns {
@@ -523,7 +524,8 @@ public final class RandomRuns {
             if (rarely()) {
                 p[r.nextInt(3)] += r.nextInt(3) - 1;
             }
-            due("share(" + w + ", " + day + ", " + h[0] + ", " + p[0] + ", " + h[1] + ", " + p[1] + ", " + h[2] + ", " + p[2] + ")",
+            String sharers = h[0] + ", " + p[0] + ", " + h[1] + ", " + p[1] + ", " + h[2] + ", " + p[2];
+            due("share(" + w + ", " + day + ", " + sharers + ")",
                 x.share(w, day, h[0], p[0], h[1], p[1], h[2], p[2]), m.share(w, day, h, p));
         }
 
@@ -534,7 +536,8 @@ public final class RandomRuns {
             int y = kind == 4 ? r.nextInt(10) : sum();
             int z = rarely() ? r.nextInt(1100) - 50 : r.nextInt(1001);
             Bargain b = new Bargain(kind, pick(hands), bits, day(), v, y, z, pick(hands));
-            due(b.toString(), x.bargain(b.kind(), b.hand(), b.works(), b.day(), b.x(), b.y(), b.z(), b.taker()), m.bargain(b));
+            due(b.toString(), x.bargain(b.kind(), b.hand(), b.works(), b.day(), b.x(), b.y(), b.z(), b.taker()),
+                m.bargain(b));
         }
 
         void report() {
@@ -543,7 +546,8 @@ public final class RandomRuns {
             int b = sum();
             int c = sum();
             boolean days = r.nextBoolean();
-            due("report(" + w + ", " + a + ", " + b + ", " + c + ", " + days + ")", x.report(w, a, b, c, days), m.report(w, a, b, c, days));
+            due("report(" + w + ", " + a + ", " + b + ", " + c + ", " + days + ")",
+                x.report(w, a, b, c, days), m.report(w, a, b, c, days));
         }
 
         void mend() {
@@ -553,7 +557,8 @@ public final class RandomRuns {
             int b = sum();
             int c = sum();
             boolean days = r.nextBoolean();
-            due("mend(" + t + ", " + w + ", " + a + ", " + b + ", " + c + ", " + days + ")", x.mend(t, w, a, b, c, days), m.mend(t, w, a, b, c, days));
+            due("mend(" + t + ", " + w + ", " + a + ", " + b + ", " + c + ", " + days + ")",
+                x.mend(t, w, a, b, c, days), m.mend(t, w, a, b, c, days));
         }
 
         void look() {
@@ -583,7 +588,8 @@ public final class RandomRuns {
                     due("line(" + i + ", " + what + ")", x.line(i, what), m.line(i, what));
                 }
                 for (int i = 0; i < 40 * 12 && what < 5; i++) {
-                    due("told(" + i / 12 + ", " + i % 12 + ", " + what + ")", x.told(i / 12, i % 12, what), m.told(i / 12, i % 12, what));
+                    due("told(" + i / 12 + ", " + i % 12 + ", " + what + ")",
+                        x.told(i / 12, i % 12, what), m.told(i / 12, i % 12, what));
                 }
             }
             for (int i = 0; i < 24 * 60; i++) {
@@ -616,6 +622,7 @@ public final class RandomRuns {
             lines += run.m.books.lines.size();
             owed += run.m.owe() != 0 ? 1 : 0;
         }
-        System.out.println(RUNS + " runs are as due (" + terms + " terms, " + lines + " last lines, " + owed + " runs with something owed)");
+        System.out.println(RUNS + " runs are as due (" + terms + " terms, " + lines + " last lines, " + owed
+            + " runs with something owed)");
     }
 }
