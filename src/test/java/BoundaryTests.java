@@ -110,7 +110,10 @@ public final class BoundaryTests {
         refused(what, past, call, low - 1, high + 1, LOW, HIGH);
     }
 
-    /** All that an office tells, and what one more TERM brings, which shows the SHARES too. */
+    /**
+     * Much of what an office tells (of BARGAINS the first seven, of LINES the first fourteen, so that 512 calls are
+     * enough), and the same behind one more TERM, which shows the SHARES too.
+     */
     private static List<Long> state(SongOffice x) {
         List<Long> all = new ArrayList<>();
         seen(x, all);
